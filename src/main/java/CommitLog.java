@@ -14,9 +14,10 @@ public final class CommitLog {
 
     private final int[] work;
     private final int[] onDisk;
+    // The log's order is that of the blocks' numbers, so each block has its own place there, as on the disk.
     private final int[] logBytes;
-    private final int[] logNumbers;
     private final boolean[] written;
+    private final boolean[] logged;
 
     private boolean powered;
     private boolean marked;
@@ -28,8 +29,8 @@ public final class CommitLog {
         work = new int[CELLS];
         onDisk = new int[CELLS];
         logBytes = new int[CELLS];
-        logNumbers = new int[BLOCKS];
         written = new boolean[BLOCKS];
+        logged = new boolean[BLOCKS];
         powered = true;
         marked = false;
         latestCount = 0;
@@ -157,19 +158,23 @@ public final class CommitLog {
     }
 
     private void bringToLog(int most) {
-        int entry = 0;
-        for (int block = 0; block < BLOCKS && entry < most; block++) {
-            if (written[block]) {
-                logNumbers[entry] = block;
-                copyBlock(work, block, logBytes, entry);
-                entry++;
+        int came = 0;
+        for (int block = 0; block < BLOCKS; block++) {
+            logged[block] = written[block] && came < most;
+            if (logged[block]) {
+                copyBlock(work, logBytes, block);
+                came++;
             }
         }
     }
 
     private void bringLogToDisk(int most) {
-        for (int entry = 0; entry < most && entry < BLOCKS; entry++) {
-            copyBlock(logBytes, entry, onDisk, logNumbers[entry]);
+        int came = 0;
+        for (int block = 0; block < BLOCKS && came < most; block++) {
+            if (logged[block]) {
+                copyBlock(logBytes, onDisk, block);
+                came++;
+            }
         }
     }
 
@@ -184,7 +189,7 @@ public final class CommitLog {
         }
     }
 
-    private static void copyBlock(int[] from, int fromBlock, int[] to, int toBlock) {
-        System.arraycopy(from, fromBlock * PLACES, to, toBlock * PLACES, PLACES);
+    private static void copyBlock(int[] from, int[] to, int block) {
+        System.arraycopy(from, block * PLACES, to, block * PLACES, PLACES);
     }
 }
